@@ -294,6 +294,7 @@ public final class FrameCommutator {
         return now.parameters[parameter];
     }
 
+    // The state is copied, not replaced: a parameter that a call has looked up before stays the one.
     private void save() {
         newest = (newest + 1) % MAX_SAVED;
         saved[newest].copyFrom(now);
@@ -454,16 +455,16 @@ public final class FrameCommutator {
 
     /** A parameter: what is sent of it, what has been received of it, and its limits. */
     private static final class Parameter {
-        int rate = 1;
-        int value = 0;
-        int latest = NONE;
-        int sampleCount = 0;
+        int rate;
+        int value;
+        int latest;
+        int sampleCount;
         final int[] lows = new int[MODES];
         final int[] highs = new int[MODES];
-        int persistence = 1;
-        boolean alarmed = false;
-        int outInRow = 0;
-        int alarmCount = 0;
+        int persistence;
+        boolean alarmed;
+        int outInRow;
+        int alarmCount;
 
         // A parameter's object is used again after an undo: every field is set anew.
         void begin(int newRate) {
@@ -604,7 +605,6 @@ public final class FrameCommutator {
         void restart() {
             condition = SEARCHING;
             missesInRow = 0;
-            position = 0;
             history = 0;
         }
 

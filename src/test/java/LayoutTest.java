@@ -7,6 +7,7 @@ public final class LayoutTest {
 
     public static void main(String[] args) {
         newObject();
+        newReceiver();
         setFrame();
         setFrameRestartsTheLink();
         setFrameKeepsWhatWasReceived();
@@ -23,15 +24,6 @@ public final class LayoutTest {
         ownerOf();
         efficiency();
         Checks.finish("LayoutTest");
-    }
-
-    private static FrameCommutator withRates(int words, int minors, int... rates) {
-        FrameCommutator x = new FrameCommutator();
-        x.setFrame(words, minors);
-        for (int rate : rates) {
-            x.addParameter(rate);
-        }
-        return x;
     }
 
     /** The owners of the data words of all minor frames: a letter a parameter, a point if free. */
@@ -66,6 +58,17 @@ public final class LayoutTest {
         Checks.refused(x, "1: M is 4", INDEX, () -> x.ownerOf(4, 7));
     }
 
+    private static void newReceiver() {
+        FrameCommutator x = new FrameCommutator();
+        x.plan();
+        x.send(2);
+        x.disturb(1, 0);
+        x.receive(63);
+        Checks.same("1: no bits are taken at first", x.receiverState(), 0);
+        x.receive(16);
+        Checks.same("1: a whole pattern", x.receiverState(), 1);
+    }
+
     private static void setFrame() {
         FrameCommutator x = new FrameCommutator();
         for (int words = 6; words <= 16; words++) {
@@ -87,7 +90,7 @@ public final class LayoutTest {
     }
 
     private static FrameCommutator withLinkInUse() {
-        FrameCommutator x = withRates(6, 2, 1);
+        FrameCommutator x = Streams.withRates(6, 2, 1);
         x.setValue(0, 77);
         x.plan();
         x.send(5);
@@ -162,35 +165,37 @@ public final class LayoutTest {
         }
         Checks.refused(x, "3: a thirteenth", STATE, () -> x.addParameter(1));
         Checks.refused(x, "3: a thirteenth with a wrong rate", ARGUMENT, () -> x.addParameter(0));
-        Checks.same("3: undo makes room", x.undo(), 3);
+        Checks.same("3: a call with twelve", x.setMode(0), 0);
+        Checks.same("3: undo of that", x.undo(), 3);
+        Checks.same("3: undo makes room", x.undo(), 2);
         Checks.same("3: for another twelfth", x.addParameter(1), 11);
     }
 
     private static void planOrder() {
-        FrameCommutator x = withRates(9, 4, -4, 1, -2, 1, 2, 1);
+        FrameCommutator x = Streams.withRates(9, 4, -4, 1, -2, 1, 2, 1);
         Checks.same("4: plan()", x.plan(), 23);
         Checks.same("4: descending samples, then ascending numbers", map(x, 9, 4),
                 "EBDEFC EBDEFA EBDEFC EBDEF.");
     }
 
     private static void planOfSupercommutation() {
-        FrameCommutator x = withRates(15, 1, 2, 4, 1);
+        FrameCommutator x = Streams.withRates(15, 1, 2, 4, 1);
         Checks.same("4: plan() with 4, 2 and 1", x.plan(), 7);
         Checks.same("4: 4, 2 and 1 in 12 columns", map(x, 15, 1), "BACB..BA.B..");
-        FrameCommutator y = withRates(15, 2, 2, 3);
+        FrameCommutator y = Streams.withRates(15, 2, 2, 3);
         Checks.same("4: plan() with 3 and 2", y.plan(), 10);
         Checks.same("4: 3 and 2 in 12 columns", map(y, 15, 2), "BA..B..AB... BA..B..AB...");
     }
 
     private static void planOfSubcommutation() {
-        FrameCommutator x = withRates(6, 8, -8, -2, -4, -8, -4);
+        FrameCommutator x = Streams.withRates(6, 8, -8, -2, -4, -8, -4);
         Checks.same("4: plan()", x.plan(), 10);
         Checks.same("4: minor frames share columns", map(x, 6, 8),
                 "BA. CD. B.. E.. B.. C.. B.. E..");
-        FrameCommutator y = withRates(6, 2, 1, 1, -2, -2);
+        FrameCommutator y = Streams.withRates(6, 2, 1, 1, -2, -2);
         Checks.same("4: plan() of a full frame", y.plan(), 6);
         Checks.same("4: a full frame", map(y, 6, 2), "ABC ABD");
-        FrameCommutator z = withRates(6, 8, -2, 1);
+        FrameCommutator z = Streams.withRates(6, 8, -2, 1);
         Checks.same("4: plan() with 1 behind -2", z.plan(), 12);
         Checks.same("4: 1 is placed before -2", map(z, 6, 8), "BA. B.. BA. B.. BA. B.. BA. B..");
     }
@@ -203,20 +208,20 @@ public final class LayoutTest {
     }
 
     private static void planThatFails() {
-        failsToPlan("if D is not divisible by 2", -10, withRates(8, 4, 2));
-        failsToPlan("if D is not divisible by 4", -11, withRates(9, 4, 2, 4));
-        failsToPlan("if D is less than r", -10, withRates(6, 4, 4));
-        failsToPlan("if M is less than q", -10, withRates(8, 4, -8));
-        failsToPlan("if M is 1 and q is 2", -11, withRates(8, 1, 1, -2));
-        failsToPlan("without a free column", -13, withRates(6, 1, 1, 1, 1, 1));
-        failsToPlan("if 3 and 2 meet", -11, withRates(9, 2, 3, 2));
-        failsToPlan("if 3, 3 and 2 meet", -10, withRates(15, 2, 2, 3, 3));
-        failsToPlan("if 4 and 3 meet", -11, withRates(15, 2, 4, 3));
-        failsToPlan("without a place for -2", -13, withRates(6, 2, 1, 1, 1, -2));
-        failsToPlan("without a place for a third -2", -14, withRates(6, 2, 1, 1, -2, -2, -2));
-        failsToPlan("names the first in the order of placing", -12, withRates(6, 2, 1, -8, 2));
-        failsToPlan("names the later one if the first fits", -11, withRates(7, 2, 1, -8, 2));
-        FrameCommutator x = withRates(6, 2, 2);
+        failsToPlan("if D is not divisible by 2", -10, Streams.withRates(8, 4, 2));
+        failsToPlan("if D is not divisible by 4", -11, Streams.withRates(9, 4, 2, 4));
+        failsToPlan("if D is less than r", -10, Streams.withRates(6, 4, 4));
+        failsToPlan("if M is less than q", -10, Streams.withRates(8, 4, -8));
+        failsToPlan("if M is 1 and q is 2", -11, Streams.withRates(8, 1, 1, -2));
+        failsToPlan("without a free column", -13, Streams.withRates(6, 1, 1, 1, 1, 1));
+        failsToPlan("if 3 and 2 meet", -11, Streams.withRates(9, 2, 3, 2));
+        failsToPlan("if 3, 3 and 2 meet", -10, Streams.withRates(15, 2, 2, 3, 3));
+        failsToPlan("if 4 and 3 meet", -11, Streams.withRates(15, 2, 4, 3));
+        failsToPlan("without a place for -2", -13, Streams.withRates(6, 2, 1, 1, 1, -2));
+        failsToPlan("without a place for a third -2", -14, Streams.withRates(6, 2, 1, 1, -2, -2, -2));
+        failsToPlan("names the first in the order of placing", -12, Streams.withRates(6, 2, 1, -8, 2));
+        failsToPlan("names the later one if the first fits", -11, Streams.withRates(7, 2, 1, -8, 2));
+        FrameCommutator x = Streams.withRates(6, 2, 2);
         failsToPlan("at first", -10, x);
         x.setFrame(7, 2);
         Checks.same("4: plan() with another layout", x.plan(), 4);
@@ -238,7 +243,7 @@ public final class LayoutTest {
         int[][] due = {{1, 1, 2, 3, 4, 0, 0, 0}, {2, 2, 4, 6, 8, 1, 0, 0}, {4, 4, 8, 12, 16, 2, 1, 0},
             {8, 8, 16, 24, 32, 4, 2, 1}};
         for (int[] row : due) {
-            FrameCommutator x = withRates(8, row[0], rates);
+            FrameCommutator x = Streams.withRates(8, row[0], rates);
             for (int i = 0; i < rates.length; i++) {
                 Checks.same("5: rate " + rates[i] + ", M " + row[0], x.samplesPerMajor(i), row[i + 1]);
             }
@@ -254,7 +259,7 @@ public final class LayoutTest {
     }
 
     private static void slot() {
-        FrameCommutator x = withRates(9, 2, 1, 2, -2, -2);
+        FrameCommutator x = Streams.withRates(9, 2, 1, 2, -2, -2);
         Checks.refused(x, "6: no plan", STATE, () -> x.slot(0, 0, 0));
         x.plan();
         slotIs(x, 0, 0, 0, 4);
@@ -273,13 +278,13 @@ public final class LayoutTest {
         Checks.refused(x, "6: what -1", ARGUMENT, () -> x.slot(0, 9, -1));
         Checks.refused(x, "6: parameter 4", INDEX, () -> x.slot(4, 0, 2));
         Checks.refused(x, "6: parameter -1", INDEX, () -> x.slot(-1, 0, 0));
-        FrameCommutator full = withRates(16, 8, 1);
+        FrameCommutator full = Streams.withRates(16, 8, 1);
         full.plan();
         slotIs(full, 0, 7, 7, 3);
     }
 
     private static void ownerOf() {
-        FrameCommutator x = withRates(6, 2, -2, 1);
+        FrameCommutator x = Streams.withRates(6, 2, -2, 1);
         Checks.refused(x, "7: no plan", STATE, () -> x.ownerOf(0, 0));
         Checks.refused(x, "7: no such word, and no plan", INDEX, () -> x.ownerOf(0, 6));
         Checks.refused(x, "7: no such minor frame, and no plan", INDEX, () -> x.ownerOf(2, 0));
@@ -298,17 +303,17 @@ public final class LayoutTest {
     }
 
     private static void efficiency() {
-        FrameCommutator x = withRates(9, 4, 1, 2, -2, -4, -4);
+        FrameCommutator x = Streams.withRates(9, 4, 1, 2, -2, -4, -4);
         Checks.refused(x, "8: no plan", STATE, () -> x.efficiency());
         x.plan();
         Checks.same("8: efficiency()", x.efficiency(), 16.0 / 36.0);
-        FrameCommutator full = withRates(6, 1, 3);
+        FrameCommutator full = Streams.withRates(6, 1, 3);
         full.plan();
         Checks.same("8: all columns", full.efficiency(), 0.5);
-        FrameCommutator none = withRates(16, 8);
+        FrameCommutator none = Streams.withRates(16, 8);
         none.plan();
         Checks.same("8: no parameter", none.efficiency(), 0.0);
-        FrameCommutator third = withRates(15, 2, 4, 1);
+        FrameCommutator third = Streams.withRates(15, 2, 4, 1);
         third.plan();
         Checks.same("8: a third", third.efficiency(), 10.0 / 30.0);
     }

@@ -134,7 +134,8 @@ public final class RandomRunsTest {
             case 16: return both("samples" + s, f -> f.samples(a), m -> m.samples(a));
             case 17: return both("setMode" + s, f -> f.setMode(a), m -> m.setMode(a));
             case 18: return both("setLimits" + s, f -> f.setLimits(a, b, c, d), m -> m.setLimits(a, b, c, d));
-            case 19: return both("setPersistence" + s, f -> f.setPersistence(a, b), m -> m.setPersistence(a, b));
+            case 19:
+                return both("setPersistence" + s, f -> f.setPersistence(a, b), m -> m.setPersistence(a, b));
             case 20: return both("hasAlarm" + s, f -> f.hasAlarm(a), m -> m.hasAlarm(a));
             case 21: return both("alarms" + s, f -> f.alarms(a), m -> m.alarms(a));
             case 22: return both("undo", f -> f.undo(), m -> m.undo());

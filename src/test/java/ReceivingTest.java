@@ -86,6 +86,9 @@ public final class ReceivingTest {
         Streams.put(x, SYNC.substring(10) + SYNC, Streams.word(85) + Streams.word(85) + Streams.word(85));
         take("the other 6 do not count", x, 6, 0, 0);
         take("a whole pattern", x, 16, 0, 1);
+        FrameCommutator y = Streams.loaded(SYNC.substring(1) + SYNC);
+        take("the pattern less a bit", y, 30, 0, 0);
+        take("the pattern", y, 1, 0, 1);
     }
 
     private static void checkThatFails() {
@@ -99,6 +102,7 @@ public final class ReceivingTest {
         countsAre("checking again", x, 0, 0, 0, 0, 0, 2);
         take("the rest", x, 32 + 48, 1, 2);
         samplesAre("after a check that failed", x, 7, 8, 9);
+        countsAre("after a check that failed", x, 1, 0, 0, 0, 0, 2);
     }
 
     private static void checkThatFailsByABit() {

@@ -22,11 +22,7 @@ public final class SendingTest {
     }
 
     private static FrameCommutator planned(int words, int minors, int... rates) {
-        FrameCommutator x = new FrameCommutator();
-        x.setFrame(words, minors);
-        for (int rate : rates) {
-            x.addParameter(rate);
-        }
+        FrameCommutator x = Streams.withRates(words, minors, rates);
         x.plan();
         return x;
     }

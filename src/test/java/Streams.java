@@ -30,12 +30,17 @@ final class Streams {
         return frame(0, 1, 2, 3) + frame(1, 4, 5, 6);
     }
 
-    static FrameCommutator planned(int... rates) {
+    static FrameCommutator withRates(int words, int minors, int... rates) {
         FrameCommutator x = new FrameCommutator();
-        x.setFrame(6, 2);
+        x.setFrame(words, minors);
         for (int rate : rates) {
             x.addParameter(rate);
         }
+        return x;
+    }
+
+    static FrameCommutator planned(int... rates) {
+        FrameCommutator x = withRates(6, 2, rates);
         x.plan();
         return x;
     }

@@ -1,3 +1,4 @@
+import java.util.function.Consumer;
 import java.util.function.Function;
 
 /** Promises 24 and 25: undo and digest. */
@@ -15,18 +16,24 @@ public final class UndoAndDigestTest {
         digestOfANewObject();
         digestOfAnObjectInUse();
         digestWithoutAPlan();
+        digestBehindMisses();
         Checks.finish("UndoAndDigestTest");
     }
 
-    /** An object with an alarm, a locked receiver, bits in the channel, and 4 saved states. */
+    /** An object that is nowhere as it began: an alarm, a miss, bits in the channel, 4 saved states. */
     private static FrameCommutator inUse() {
         FrameCommutator x = Streams.planned(1, -2);
-        x.setLimits(0, 0, 0, 10);
+        x.setMode(1);
+        x.setLimits(0, 1, 5, 10);
+        x.setLimits(1, 2, 7, 8);
+        x.setPersistence(0, 2);
         x.setValue(0, 20);
-        x.send(5);
-        x.receive(130);
+        x.send(6);
+        x.disturb(0, 144);
+        x.receive(48 * 3 + 30);
         Checks.same("22: an alarm", x.hasAlarm(0), true);
         Checks.same("15: locked", x.receiverState(), 2);
+        Checks.same("16: a miss", x.received(4), 1);
         return x;
     }
 
@@ -37,7 +44,9 @@ public final class UndoAndDigestTest {
         call.apply(x);
         Checks.same("24: undo() of " + what, x.undo(), 3);
         Checks.same("24: digest behind undo of " + what, x.digest() - 3, before);
-        Checks.same("24: the receiver goes on behind undo of " + what, x.receive(110), 3);
+        Checks.same("24: the receiver goes on behind undo of " + what, x.receive(114), 3);
+        Checks.same("24: with the bits behind undo of " + what, x.sample(0), 20);
+        Checks.same("24: with the limits behind undo of " + what, x.alarms(0), 1);
     }
 
     private static void undoOfEachMethod() {
@@ -107,20 +116,54 @@ public final class UndoAndDigestTest {
     }
 
     private static void undoneParametersLeaveNothing() {
-        FrameCommutator x = Streams.planned();
+        undoneParameterLeavesNothing(x -> {
+            x.setValue(1, 9);
+            x.setLimits(1, 1, 3, 4);
+            x.setPersistence(1, 4);
+        });
+        undoneParameterLeavesNothing(x -> {
+            x.plan();
+            x.send(3);
+            x.receive(144);
+            Checks.same("18: samples", x.samples(1), 2);
+        });
+    }
+
+    /** Three calls use parameter 1: whatever an object still keeps of them must not come back. */
+    private static void undoneParameterLeavesNothing(Consumer<FrameCommutator> use) {
+        FrameCommutator x = Streams.planned(1);
         x.addParameter(1);
-        x.setValue(0, 9);
-        x.setLimits(0, 1, 3, 4);
-        x.setPersistence(0, 4);
+        use.accept(x);
+        for (int i = 0; i < 4; i++) {
+            x.undo();
+        }
+        for (int i = 0; i < 4; i++) {
+            x.setMode(0);
+        }
+        for (int saves = 0; saves < 4; saves++) {
+            for (int i = 0; i < saves; i++) {
+                x.setMode(0);
+            }
+            x.undo();
+            newParameterIsNew(x);
+        }
+    }
+
+    /** Adds parameter 1, looks at it, and takes it away again. */
+    private static void newParameterIsNew(FrameCommutator x) {
+        Checks.same("24: another parameter 1", x.addParameter(2), 1);
+        Checks.same("24: its sample", x.sample(1), -1);
+        Checks.same("24: its samples", x.samples(1), 0);
+        Checks.same("24: its alarm", x.hasAlarm(1), false);
+        Checks.same("24: its alarms", x.alarms(1), 0);
+        Checks.same("24: its rate", x.samplesPerMajor(1), 4);
+        Checks.same("24: its value", x.setValue(1, 0), 0);
+        x.undo();
+        Checks.same("24: its limits", x.setLimits(1, 1, 0, 255), 255);
+        x.undo();
+        Checks.same("24: its persistence", x.setPersistence(1, 1), 1);
         x.undo();
         x.undo();
-        x.undo();
-        x.undo();
-        Checks.same("24: another parameter 0", x.addParameter(2), 0);
-        Checks.same("24: its value", x.setValue(0, 1), 0);
-        Checks.same("24: its limits", x.setLimits(0, 1, 0, 0), 255);
-        Checks.same("24: its persistence", x.setPersistence(0, 1), 1);
-        Checks.same("24: its rate", x.samplesPerMajor(0), 4);
     }
 
     private static void fourStates() {
@@ -133,6 +176,8 @@ public final class UndoAndDigestTest {
         Checks.same("24: the second undo", x.undo(), 2);
         Checks.same("24: 8 was the value, and 8 is saved again", x.setValue(0, 50), 8);
         Checks.same("24: undo of that", x.undo(), 2);
+        Checks.same("24: 8 is back", x.setValue(0, 60), 8);
+        Checks.same("24: undo once more", x.undo(), 2);
         Checks.same("24: the third undo", x.undo(), 1);
         Checks.same("24: the fourth undo", x.undo(), 0);
         Checks.refused(x, "24: the older ones are dropped", STATE, () -> x.undo());
@@ -198,6 +243,18 @@ public final class UndoAndDigestTest {
                 -2, 0, 30, 1, 0, 255, 0, 255, 1, 250, 1, 0, 0, 0,
                 1, -1, -1, -1, 0, 1, -1, -1, -1, -1, 0, -1, -1,
                 1, 4, 1, 0, 1, 1, 2, 1, 3, 0, 0, 0, 1, 1, 2, 4));
+    }
+
+    private static void digestBehindMisses() {
+        FrameCommutator x = Streams.loadedWithoutParameters(Streams.lock()
+                + Streams.broken(0, 85, 85, 85) + Streams.broken(1, 85, 85, 85));
+        x.receive(192);
+        Checks.same("25: two misses in a row", x.digest(), hash(6, 2, 0,
+                1, -1, -1, -1, -1, -1, -1, -1, -1, -1, -1, -1, -1,
+                0, 0, 2, 2, 3, 0, 0, 0, 2, 1, 0, 4));
+        x.setFrame(7, 1);
+        Checks.same("2: no misses in a row", x.digest(), hash(7, 1, 0,
+                0, 0, 0, 0, 0, 3, 0, 0, 0, 2, 1, 0, 4));
     }
 
     private static void digestWithoutAPlan() {
