@@ -185,6 +185,9 @@ public final class LayoutTest {
         FrameCommutator y = Streams.withRates(15, 2, 2, 3);
         Checks.same("4: plan() with 3 and 2", y.plan(), 10);
         Checks.same("4: 3 and 2 in 12 columns", map(y, 15, 2), "BA..B..AB... BA..B..AB...");
+        FrameCommutator z = Streams.withRates(15, 2, 2, 2, 2, 2, 2, 2);
+        Checks.same("4: plan() with 2 six times", z.plan(), 24);
+        Checks.same("4: 2 six times in 12 columns", map(z, 15, 2), "ABCDEFABCDEF ABCDEFABCDEF");
     }
 
     private static void planOfSubcommutation() {
