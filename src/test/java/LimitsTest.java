@@ -20,22 +20,6 @@ public final class LimitsTest {
         Checks.finish("LimitsTest");
     }
 
-    /** A receiver that is locked, with one parameter in each minor frame. */
-    private static FrameCommutator locked() {
-        FrameCommutator x = Streams.planned(1);
-        x.send(2);
-        x.receive(96);
-        return x;
-    }
-
-    private static void feed(FrameCommutator x, int... values) {
-        for (int value : values) {
-            x.setValue(0, value);
-            x.send(1);
-            Checks.same("14: a sample", x.receive(48), 1);
-        }
-    }
-
     private static void alarmIs(String what, FrameCommutator x, boolean alarm, int alarms) {
         Checks.same("22: " + what + ", hasAlarm(0)", x.hasAlarm(0), alarm);
         Checks.same("23: " + what + ", alarms(0)", x.alarms(0), alarms);
@@ -52,23 +36,23 @@ public final class LimitsTest {
     }
 
     private static void modeKeepsAlarmsAndRows() {
-        FrameCommutator x = locked();
+        FrameCommutator x = Streams.locked();
         x.setLimits(0, 0, 10, 20);
         x.setPersistence(0, 3);
-        feed(x, 21, 22);
+        Streams.feed(x, 21, 22);
         x.setMode(1);
         alarmIs("two out of limits", x, false, 0);
         x.setMode(0);
-        feed(x, 23);
+        Streams.feed(x, 23);
         alarmIs("the row has stayed", x, true, 1);
         x.setMode(1);
         alarmIs("the alarm stays", x, true, 1);
-        feed(x, 23);
+        Streams.feed(x, 23);
         alarmIs("within the limits of mode 1", x, false, 1);
     }
 
     private static void setLimits() {
-        FrameCommutator x = locked();
+        FrameCommutator x = Streams.locked();
         x.addParameter(1);
         Checks.same("20: initial limits", x.setLimits(0, 1, 10, 20), 255);
         Checks.same("20: previous limits", x.setLimits(0, 1, 0, 255), 10020);
@@ -83,7 +67,7 @@ public final class LimitsTest {
     }
 
     private static void setLimitsWrongly() {
-        FrameCommutator x = locked();
+        FrameCommutator x = Streams.locked();
         Checks.refused(x, "20: mode 3", ARGUMENT, () -> x.setLimits(0, 3, 0, 0));
         Checks.refused(x, "20: mode -1", ARGUMENT, () -> x.setLimits(0, -1, 0, 0));
         Checks.refused(x, "20: low -1", ARGUMENT, () -> x.setLimits(0, 0, -1, 0));
@@ -96,7 +80,7 @@ public final class LimitsTest {
     }
 
     private static void limitsOfThePresentMode() {
-        FrameCommutator x = locked();
+        FrameCommutator x = Streams.locked();
         x.setLimits(0, 0, 0, 50);
         x.setLimits(0, 1, 100, 150);
         x.setLimits(0, 2, 200, 255);
@@ -104,30 +88,30 @@ public final class LimitsTest {
         for (int mode = 0; mode < 3; mode++) {
             x.setMode(mode);
             for (int i = 0; i < 3; i++) {
-                feed(x, within[i]);
+                Streams.feed(x, within[i]);
                 Checks.same("20: " + within[i] + " in mode " + mode, x.hasAlarm(0), i != mode);
             }
         }
     }
 
     private static void limitsAreWithin() {
-        FrameCommutator x = locked();
-        feed(x, 0, 255);
+        FrameCommutator x = Streams.locked();
+        Streams.feed(x, 0, 255);
         alarmIs("initial limits", x, false, 0);
         x.setLimits(0, 0, 10, 20);
         alarmIs("limits alone raise nothing", x, false, 0);
-        feed(x, 10, 20);
+        Streams.feed(x, 10, 20);
         alarmIs("at the limits", x, false, 0);
-        feed(x, 9);
+        Streams.feed(x, 9);
         alarmIs("below", x, true, 1);
-        feed(x, 10);
+        Streams.feed(x, 10);
         alarmIs("within ends it", x, false, 1);
-        feed(x, 21);
+        Streams.feed(x, 21);
         alarmIs("above", x, true, 2);
     }
 
     private static void setPersistence() {
-        FrameCommutator x = locked();
+        FrameCommutator x = Streams.locked();
         Checks.same("21: setPersistence(0, 5)", x.setPersistence(0, 5), 1);
         Checks.same("21: setPersistence(0, 1)", x.setPersistence(0, 1), 5);
         Checks.refused(x, "21: persistence 0", ARGUMENT, () -> x.setPersistence(0, 0));
@@ -139,45 +123,45 @@ public final class LimitsTest {
 
     private static void persistenceCountsARow() {
         for (int persistence = 1; persistence <= 5; persistence++) {
-            FrameCommutator x = locked();
+            FrameCommutator x = Streams.locked();
             x.setLimits(0, 0, 100, 200);
             x.setPersistence(0, persistence);
             for (int i = 1; i < persistence; i++) {
-                feed(x, 99);
+                Streams.feed(x, 99);
                 alarmIs("out of limits " + i + " times of " + persistence, x, false, 0);
             }
-            feed(x, 100);
+            Streams.feed(x, 100);
             for (int i = 1; i < persistence; i++) {
-                feed(x, 201);
+                Streams.feed(x, 201);
             }
             alarmIs("the row has begun anew", x, false, 0);
-            feed(x, 99);
+            Streams.feed(x, 99);
             alarmIs("out of limits " + persistence + " times", x, true, 1);
         }
     }
 
     private static void persistenceThatChanges() {
-        FrameCommutator x = locked();
+        FrameCommutator x = Streams.locked();
         x.setLimits(0, 0, 0, 10);
         x.setPersistence(0, 5);
-        feed(x, 11, 11, 11);
+        Streams.feed(x, 11, 11, 11);
         x.setPersistence(0, 2);
         alarmIs("a smaller persistence alone raises nothing", x, false, 0);
-        feed(x, 11);
+        Streams.feed(x, 11);
         alarmIs("the next sample does", x, true, 1);
         x.setPersistence(0, 5);
-        feed(x, 11);
+        Streams.feed(x, 11);
         alarmIs("a larger one ends nothing", x, true, 1);
     }
 
     private static void alarmIsRaisedOnce() {
-        FrameCommutator x = locked();
+        FrameCommutator x = Streams.locked();
         x.setLimits(0, 0, 0, 10);
-        feed(x, 11, 12, 13);
+        Streams.feed(x, 11, 12, 13);
         alarmIs("three out of limits", x, true, 1);
-        feed(x, 5);
+        Streams.feed(x, 5);
         alarmIs("one within", x, false, 1);
-        feed(x, 11);
+        Streams.feed(x, 11);
         alarmIs("out of limits again", x, true, 2);
     }
 
@@ -201,7 +185,7 @@ public final class LimitsTest {
     }
 
     private static void alarmsWrongly() {
-        FrameCommutator x = locked();
+        FrameCommutator x = Streams.locked();
         for (int parameter : new int[] {-1, 1, 12, Integer.MIN_VALUE}) {
             Checks.refused(x, "22: hasAlarm(" + parameter + ")", INDEX, () -> x.hasAlarm(parameter));
             Checks.refused(x, "23: alarms(" + parameter + ")", INDEX, () -> x.alarms(parameter));

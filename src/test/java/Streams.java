@@ -1,3 +1,5 @@
+import java.util.Arrays;
+
 /** Bits for the receiver, written as texts of 0 and 1, for minor frames of 6 words and M = 2. */
 final class Streams {
     static final String SYNC = "1110101110010000";
@@ -39,10 +41,45 @@ final class Streams {
         return x;
     }
 
-    static FrameCommutator planned(int... rates) {
-        FrameCommutator x = withRates(6, 2, rates);
+    static FrameCommutator plannedAs(int words, int minors, int... rates) {
+        FrameCommutator x = withRates(words, minors, rates);
         x.plan();
         return x;
+    }
+
+    static FrameCommutator planned(int... rates) {
+        return plannedAs(6, 2, rates);
+    }
+
+    /** A channel of 2048 bits: 16 minor frames of 16 words without a parameter. */
+    static FrameCommutator full() {
+        FrameCommutator x = plannedAs(16, 1);
+        x.send(16);
+        return x;
+    }
+
+    /** The same rate again and again. */
+    static int[] times(int count, int rate) {
+        int[] rates = new int[count];
+        Arrays.fill(rates, rate);
+        return rates;
+    }
+
+    static String bits(FrameCommutator x, int from, int count) {
+        StringBuilder bits = new StringBuilder();
+        for (int i = 0; i < count; i++) {
+            bits.append(x.bit(from + i));
+        }
+        return bits.toString();
+    }
+
+    /** The words of a minor frame that begins at a bit of the channel. */
+    static String words(FrameCommutator x, int from, int count) {
+        StringBuilder words = new StringBuilder();
+        for (int i = 0; i < count; i++) {
+            words.append(i == 0 ? "" : " ").append(Integer.parseInt(bits(x, from + 8 * i, 8), 2));
+        }
+        return words.toString();
     }
 
     /** Three parameters, one a column, and a channel that holds just these bits. */
@@ -74,6 +111,22 @@ final class Streams {
         }
         for (int i = sent.length() - 1; i >= stream.length(); i--) {
             x.disturb(1, i);
+        }
+    }
+
+    /** A receiver that is locked, with one parameter in each minor frame. */
+    static FrameCommutator locked() {
+        FrameCommutator x = planned(1);
+        x.send(2);
+        x.receive(96);
+        return x;
+    }
+
+    static void feed(FrameCommutator x, int... values) {
+        for (int value : values) {
+            x.setValue(0, value);
+            x.send(1);
+            Checks.same("14: a sample", x.receive(48), 1);
         }
     }
 }
