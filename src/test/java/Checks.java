@@ -27,6 +27,18 @@ final class Checks {
         same(what + ", digest behind it", x.digest(), before);
     }
 
+    static void alarmIs(String what, FrameCommutator x, boolean alarm, int alarms) {
+        same("22: " + what + ", hasAlarm(0)", x.hasAlarm(0), alarm);
+        same("23: " + what + ", alarms(0)", x.alarms(0), alarms);
+    }
+
+    /** The counts of the receiver, from received(0) on. */
+    static void countsAre(String what, FrameCommutator x, int... due) {
+        for (int i = 0; i < due.length; i++) {
+            same("16: " + what + ", received(" + i + ")", x.received(i), due[i]);
+        }
+    }
+
     /** The answer of a call, or the class of what it threw. */
     static Object outcome(Supplier<?> call) {
         try {

@@ -26,11 +26,6 @@ public final class LimitBoundsTest {
         Checks.finish("LimitBoundsTest");
     }
 
-    private static void alarmIs(String what, FrameCommutator x, boolean alarm, int alarms) {
-        Checks.same("22: " + what + ", hasAlarm(0)", x.hasAlarm(0), alarm);
-        Checks.same("23: " + what + ", alarms(0)", x.alarms(0), alarms);
-    }
-
     private static FrameCommutator limited(int persistence) {
         FrameCommutator x = Streams.locked();
         x.setLimits(0, 0, 100, 200);
@@ -87,7 +82,7 @@ public final class LimitBoundsTest {
         }
         FrameCommutator x = Streams.locked();
         Streams.feed(x, 0, 255);
-        alarmIs("nothing is out of 0 and 255", x, false, 0);
+        Checks.alarmIs("nothing is out of 0 and 255", x, false, 0);
     }
 
     private static void limitsThatMeet() {
@@ -95,12 +90,12 @@ public final class LimitBoundsTest {
             FrameCommutator x = Streams.locked();
             x.setLimits(0, 0, limit, limit);
             Streams.feed(x, limit);
-            alarmIs("only " + limit + " is within", x, false, 0);
+            Checks.alarmIs("only " + limit + " is within", x, false, 0);
             int other = limit == 0 ? 1 : limit - 1;
             Streams.feed(x, other);
-            alarmIs(other + " is out of " + limit, x, true, 1);
+            Checks.alarmIs(other + " is out of " + limit, x, true, 1);
             Streams.feed(x, limit);
-            alarmIs(limit + " ends it", x, false, 1);
+            Checks.alarmIs(limit + " ends it", x, false, 1);
         }
     }
 
@@ -111,7 +106,7 @@ public final class LimitBoundsTest {
         for (int i = 0; i < samples.length; i++) {
             FrameCommutator x = limited(1);
             Streams.feed(x, samples[i]);
-            alarmIs("sample " + samples[i], x, out[i], out[i] ? 1 : 0);
+            Checks.alarmIs("sample " + samples[i], x, out[i], out[i] ? 1 : 0);
         }
     }
 
@@ -140,7 +135,7 @@ public final class LimitBoundsTest {
         FrameCommutator x = Streams.locked();
         x.setLimits(0, 0, 1, 255);
         Streams.feed(x, 0);
-        alarmIs("the first sample raises it", x, true, 1);
+        Checks.alarmIs("the first sample raises it", x, true, 1);
         Checks.same("21: initially", x.setPersistence(0, 5), 1);
         Checks.same("21: the largest", x.setPersistence(0, 1), 5);
     }
@@ -152,7 +147,7 @@ public final class LimitBoundsTest {
             for (int row = 1; row <= 6; row++) {
                 Streams.feed(x, row % 2 == 0 ? 99 : 201);
                 boolean raised = row >= persistence;
-                alarmIs(row + " of " + persistence + " in a row", x, raised, raised ? 1 : 0);
+                Checks.alarmIs(row + " of " + persistence + " in a row", x, raised, raised ? 1 : 0);
             }
         }
     }
@@ -183,27 +178,27 @@ public final class LimitBoundsTest {
                 }
                 Streams.feed(x, 200);
             }
-            alarmIs("one fewer than " + persistence + " in each row", x, false, 0);
+            Checks.alarmIs("one fewer than " + persistence + " in each row", x, false, 0);
         }
     }
 
     private static void sampleWithinEndsTheAlarm() {
         FrameCommutator x = limited(3);
         Streams.feed(x, 99, 99, 99, 99);
-        alarmIs("four in a row", x, true, 1);
+        Checks.alarmIs("four in a row", x, true, 1);
         Streams.feed(x, 100);
-        alarmIs("one within", x, false, 1);
+        Checks.alarmIs("one within", x, false, 1);
         Streams.feed(x, 99, 99);
-        alarmIs("two in a row", x, false, 1);
+        Checks.alarmIs("two in a row", x, false, 1);
         Streams.feed(x, 99);
-        alarmIs("three in a row", x, true, 2);
+        Checks.alarmIs("three in a row", x, true, 2);
     }
 
     private static void alarmIsNotRaisedTwice() {
         FrameCommutator x = limited(1);
         for (int i = 0; i < 10; i++) {
             Streams.feed(x, 0);
-            alarmIs("raised once", x, true, 1);
+            Checks.alarmIs("raised once", x, true, 1);
         }
     }
 
@@ -211,25 +206,25 @@ public final class LimitBoundsTest {
         FrameCommutator x = limited(5);
         Streams.feed(x, 99, 99, 99, 99);
         x.setPersistence(0, 1);
-        alarmIs("a smaller persistence", x, false, 0);
+        Checks.alarmIs("a smaller persistence", x, false, 0);
         FrameCommutator y = limited(5);
         Streams.feed(y, 99, 99, 99, 99);
         y.setPersistence(0, 4);
         Streams.feed(y, 99);
-        alarmIs("more than the persistence", y, true, 1);
+        Checks.alarmIs("more than the persistence", y, true, 1);
         Streams.feed(x, 100);
-        alarmIs("a sample within comes first", x, false, 0);
+        Checks.alarmIs("a sample within comes first", x, false, 0);
     }
 
     private static void limitsWaitForASample() {
         FrameCommutator x = limited(1);
         Streams.feed(x, 99);
         x.setLimits(0, 0, 0, 255);
-        alarmIs("wider limits end nothing", x, true, 1);
+        Checks.alarmIs("wider limits end nothing", x, true, 1);
         Streams.feed(x, 99);
-        alarmIs("the next sample does", x, false, 1);
+        Checks.alarmIs("the next sample does", x, false, 1);
         x.setLimits(0, 0, 100, 200);
-        alarmIs("narrower limits raise nothing", x, false, 1);
+        Checks.alarmIs("narrower limits raise nothing", x, false, 1);
     }
 
     /** "Alarms and rows of samples stay." */
@@ -239,15 +234,15 @@ public final class LimitBoundsTest {
         x.setMode(1);
         x.setMode(0);
         Streams.feed(x, 99);
-        alarmIs("the row has stayed", x, true, 1);
+        Checks.alarmIs("the row has stayed", x, true, 1);
         x.setMode(2);
-        alarmIs("the alarm stays", x, true, 1);
+        Checks.alarmIs("the alarm stays", x, true, 1);
         x.setLimits(0, 2, 0, 98);
         Streams.feed(x, 99);
-        alarmIs("it goes on in another mode", x, true, 1);
+        Checks.alarmIs("it goes on in another mode", x, true, 1);
         x.setMode(1);
         Streams.feed(x, 99);
-        alarmIs("within in a third one", x, false, 1);
+        Checks.alarmIs("within in a third one", x, false, 1);
     }
 
     private static void noAlarmAtFirst() {
@@ -258,8 +253,8 @@ public final class LimitBoundsTest {
         FrameCommutator y = limited(1);
         Streams.feed(y, 99);
         y.addParameter(1);
-        alarmIs("a new parameter ends no alarm", y, true, 1);
+        Checks.alarmIs("a new parameter ends no alarm", y, true, 1);
         y.setFrame(6, 4);
-        alarmIs("a new layout ends no alarm", y, true, 1);
+        Checks.alarmIs("a new layout ends no alarm", y, true, 1);
     }
 }

@@ -20,11 +20,6 @@ public final class LimitsTest {
         Checks.finish("LimitsTest");
     }
 
-    private static void alarmIs(String what, FrameCommutator x, boolean alarm, int alarms) {
-        Checks.same("22: " + what + ", hasAlarm(0)", x.hasAlarm(0), alarm);
-        Checks.same("23: " + what + ", alarms(0)", x.alarms(0), alarms);
-    }
-
     private static void setMode() {
         FrameCommutator x = new FrameCommutator();
         Checks.same("19: setMode(2)", x.setMode(2), 0);
@@ -41,14 +36,14 @@ public final class LimitsTest {
         x.setPersistence(0, 3);
         Streams.feed(x, 21, 22);
         x.setMode(1);
-        alarmIs("two out of limits", x, false, 0);
+        Checks.alarmIs("two out of limits", x, false, 0);
         x.setMode(0);
         Streams.feed(x, 23);
-        alarmIs("the row has stayed", x, true, 1);
+        Checks.alarmIs("the row has stayed", x, true, 1);
         x.setMode(1);
-        alarmIs("the alarm stays", x, true, 1);
+        Checks.alarmIs("the alarm stays", x, true, 1);
         Streams.feed(x, 23);
-        alarmIs("within the limits of mode 1", x, false, 1);
+        Checks.alarmIs("within the limits of mode 1", x, false, 1);
     }
 
     private static void setLimits() {
@@ -97,17 +92,17 @@ public final class LimitsTest {
     private static void limitsAreWithin() {
         FrameCommutator x = Streams.locked();
         Streams.feed(x, 0, 255);
-        alarmIs("initial limits", x, false, 0);
+        Checks.alarmIs("initial limits", x, false, 0);
         x.setLimits(0, 0, 10, 20);
-        alarmIs("limits alone raise nothing", x, false, 0);
+        Checks.alarmIs("limits alone raise nothing", x, false, 0);
         Streams.feed(x, 10, 20);
-        alarmIs("at the limits", x, false, 0);
+        Checks.alarmIs("at the limits", x, false, 0);
         Streams.feed(x, 9);
-        alarmIs("below", x, true, 1);
+        Checks.alarmIs("below", x, true, 1);
         Streams.feed(x, 10);
-        alarmIs("within ends it", x, false, 1);
+        Checks.alarmIs("within ends it", x, false, 1);
         Streams.feed(x, 21);
-        alarmIs("above", x, true, 2);
+        Checks.alarmIs("above", x, true, 2);
     }
 
     private static void setPersistence() {
@@ -128,15 +123,15 @@ public final class LimitsTest {
             x.setPersistence(0, persistence);
             for (int i = 1; i < persistence; i++) {
                 Streams.feed(x, 99);
-                alarmIs("out of limits " + i + " times of " + persistence, x, false, 0);
+                Checks.alarmIs("out of limits " + i + " times of " + persistence, x, false, 0);
             }
             Streams.feed(x, 100);
             for (int i = 1; i < persistence; i++) {
                 Streams.feed(x, 201);
             }
-            alarmIs("the row has begun anew", x, false, 0);
+            Checks.alarmIs("the row has begun anew", x, false, 0);
             Streams.feed(x, 99);
-            alarmIs("out of limits " + persistence + " times", x, true, 1);
+            Checks.alarmIs("out of limits " + persistence + " times", x, true, 1);
         }
     }
 
@@ -146,23 +141,23 @@ public final class LimitsTest {
         x.setPersistence(0, 5);
         Streams.feed(x, 11, 11, 11);
         x.setPersistence(0, 2);
-        alarmIs("a smaller persistence alone raises nothing", x, false, 0);
+        Checks.alarmIs("a smaller persistence alone raises nothing", x, false, 0);
         Streams.feed(x, 11);
-        alarmIs("the next sample does", x, true, 1);
+        Checks.alarmIs("the next sample does", x, true, 1);
         x.setPersistence(0, 5);
         Streams.feed(x, 11);
-        alarmIs("a larger one ends nothing", x, true, 1);
+        Checks.alarmIs("a larger one ends nothing", x, true, 1);
     }
 
     private static void alarmIsRaisedOnce() {
         FrameCommutator x = Streams.locked();
         x.setLimits(0, 0, 0, 10);
         Streams.feed(x, 11, 12, 13);
-        alarmIs("three out of limits", x, true, 1);
+        Checks.alarmIs("three out of limits", x, true, 1);
         Streams.feed(x, 5);
-        alarmIs("one within", x, false, 1);
+        Checks.alarmIs("one within", x, false, 1);
         Streams.feed(x, 11);
-        alarmIs("out of limits again", x, true, 2);
+        Checks.alarmIs("out of limits again", x, true, 2);
     }
 
     private static void samplesOfOneMinorFrame() {
@@ -171,9 +166,9 @@ public final class LimitsTest {
         Streams.put(x, Streams.lock() + Streams.frame(0, 11, 5, 12) + Streams.frame(1, 13, 5, 6),
                 Streams.body(0, 0, 0, 0).substring(8));
         x.receive(144);
-        alarmIs("out, within, out", x, true, 2);
+        Checks.alarmIs("out, within, out", x, true, 2);
         x.receive(48);
-        alarmIs("out, within, within", x, false, 2);
+        Checks.alarmIs("out, within, within", x, false, 2);
     }
 
     private static void badMinorFramesDoNotCount() {
@@ -181,7 +176,7 @@ public final class LimitsTest {
         x.setLimits(0, 0, 0, 10);
         x.receive(144);
         Checks.same("16: a bad one", x.received(1), 1);
-        alarmIs("a bad minor frame", x, false, 0);
+        Checks.alarmIs("a bad minor frame", x, false, 0);
     }
 
     private static void alarmsWrongly() {

@@ -39,15 +39,12 @@ public final class ReceiverBoundsTest {
         noSampleOfAnotherMinorFrame();
         columnsInAscendingOrder();
         newLayoutKeepsTheCounts();
-        newLayoutLeavesNoMisses();
-        newLayoutLeavesNoBits();
-        Checks.finish("ReceiverBoundsTest");
-    }
-
-    private static void countsAre(String what, FrameCommutator x, int... due) {
-        for (int i = 0; i < due.length; i++) {
-            Checks.same("16: " + what + ", received(" + i + ")", x.received(i), due[i]);
+        for (boolean byParameter : new boolean[] {false, true}) {
+            newLayoutLeavesNoMisses(byParameter);
+            newLayoutLeavesNoBits(byParameter);
+            newLayoutAnywhere(byParameter);
         }
+        Checks.finish("ReceiverBoundsTest");
     }
 
     private static FrameCommutator taken(String stream) {
@@ -102,7 +99,7 @@ public final class ReceiverBoundsTest {
     /** "it begins by searching" */
     private static void beginsBySearching() {
         stateIs("a new object", new FrameCommutator(), SEARCHING);
-        countsAre("a new object", new FrameCommutator(), 0, 0, 0, 0, 0, 0);
+        Checks.countsAre("a new object", new FrameCommutator(), 0, 0, 0, 0, 0, 0);
         stateIs("bits that nobody has taken", Streams.loaded(LOCK), SEARCHING);
     }
 
@@ -114,7 +111,8 @@ public final class ReceiverBoundsTest {
             Checks.same("16: checking", x.received(5), begin == 0 ? 1 : 0);
         }
         for (int end = 1; end <= 16; end++) {
-            stateIs(end + " bits of a pattern", taken(SYNC.substring(0, end)), end < 16 ? SEARCHING : CHECKING);
+            int due = end < 16 ? SEARCHING : CHECKING;
+            stateIs(end + " bits of a pattern", taken(SYNC.substring(0, end)), due);
         }
         stateIs("a pattern behind another's begin", taken(SYNC.substring(0, 15) + SYNC), CHECKING);
     }
@@ -153,7 +151,7 @@ public final class ReceiverBoundsTest {
         for (int i = 0; i < 16; i++) {
             FrameCommutator x = taken(Streams.frame(0, 1, 2, 3) + flipped(SYNC, i));
             stateIs("a check with bit " + i + " flipped", x, SEARCHING);
-            countsAre("a check with bit " + i + " flipped", x, 0, 0, 0, 0, 0, 1);
+            Checks.countsAre("a check with bit " + i + " flipped", x, 0, 0, 0, 0, 0, 1);
         }
     }
 
@@ -163,7 +161,7 @@ public final class ReceiverBoundsTest {
             String zeros = "00000000000000000".substring(0, before);
             FrameCommutator x = taken(Streams.frame(0, 1, 2, 3) + zeros + SYNC);
             stateIs("a pattern " + before + " bits late in a check", x, CHECKING);
-            countsAre("a pattern " + before + " bits late in a check", x, 0, 0, 0, 0, 0, 2);
+            Checks.countsAre("a pattern " + before + " bits late in a check", x, 0, 0, 0, 0, 0, 2);
         }
         FrameCommutator y = taken(without(Streams.frame(0, 1, 2, 3), 47) + SYNC + "000");
         stateIs("a pattern that began before the 16 bits", y, SEARCHING);
@@ -172,9 +170,10 @@ public final class ReceiverBoundsTest {
     /** "Otherwise this is a miss" */
     private static void missOnAnyBit() {
         for (int i = 0; i < 16; i++) {
-            FrameCommutator x = taken(LOCK + flipped(Streams.frame(0, 7, 8, 9), i) + Streams.frame(1, 1, 1, 1));
+            String wrong = flipped(Streams.frame(0, 7, 8, 9), i);
+            FrameCommutator x = taken(LOCK + wrong + Streams.frame(1, 1, 1, 1));
             stateIs("bit " + i + " is flipped", x, LOCKED);
-            countsAre("bit " + i + " is flipped", x, 3, 0, 0, 0, 1, 1);
+            Checks.countsAre("bit " + i + " is flipped", x, 3, 0, 0, 0, 1, 1);
             Checks.same("18: all are delivered", x.samples(0), 3);
         }
     }
@@ -182,8 +181,9 @@ public final class ReceiverBoundsTest {
     /** "if they are equal, this is an early slip" */
     private static void earlySlipOfAnyBit() {
         for (int i = 16; i < 48; i++) {
-            FrameCommutator x = taken(LOCK + without(Streams.frame(0, 7, 8, 9), i) + Streams.frame(1, 10, 11, 12));
-            countsAre("bit " + i + " is lost", x, 3, 0, 1, 0, 0, 1);
+            String shorter = without(Streams.frame(0, 7, 8, 9), i);
+            FrameCommutator x = taken(LOCK + shorter + Streams.frame(1, 10, 11, 12));
+            Checks.countsAre("bit " + i + " is lost", x, 3, 0, 1, 0, 0, 1);
             stateIs("bit " + i + " is lost", x, LOCKED);
             Checks.same("17: behind an early slip", x.sample(2), 12);
         }
@@ -193,7 +193,7 @@ public final class ReceiverBoundsTest {
     private static void lateSlipOfEitherBit() {
         for (int bit = 0; bit < 2; bit++) {
             FrameCommutator x = taken(LOCK + Streams.frame(0, 7, 8, 9) + bit + Streams.frame(1, 10, 11, 12));
-            countsAre("a " + bit + " is added", x, 3, 0, 0, 1, 0, 1);
+            Checks.countsAre("a " + bit + " is added", x, 3, 0, 0, 1, 0, 1);
             stateIs("a " + bit + " is added", x, LOCKED);
             Checks.same("17: behind a late slip", x.sample(2), 12);
         }
@@ -204,10 +204,10 @@ public final class ReceiverBoundsTest {
         String frame = Streams.frame(0, 7, 8, 9);
         String rest = frame + frame + frame;
         FrameCommutator lost = taken(LOCK + frame.substring(0, 46) + rest);
-        countsAre("two bits are lost", lost, 4, 0, 0, 0, 3, 1);
+        Checks.countsAre("two bits are lost", lost, 4, 0, 0, 0, 3, 1);
         stateIs("two bits are lost", lost, SEARCHING);
         FrameCommutator added = taken(LOCK + frame + "00" + rest);
-        countsAre("two bits are added", added, 4, 0, 0, 0, 3, 1);
+        Checks.countsAre("two bits are added", added, 4, 0, 0, 0, 3, 1);
         stateIs("two bits are added", added, SEARCHING);
     }
 
@@ -215,9 +215,9 @@ public final class ReceiverBoundsTest {
     private static void slipsOfAPatternInACheck() {
         String frame = Streams.frame(0, 1, 2, 3);
         FrameCommutator early = taken(without(frame, 40) + frame + frame + frame);
-        countsAre("a bit is lost in a check", early, 1, 0, 0, 0, 0, 2);
+        Checks.countsAre("a bit is lost in a check", early, 1, 0, 0, 0, 0, 2);
         FrameCommutator late = taken(frame + "0" + frame + frame);
-        countsAre("a bit is added in a check", late, 1, 0, 0, 0, 0, 2);
+        Checks.countsAre("a bit is added in a check", late, 1, 0, 0, 0, 0, 2);
     }
 
     /** "if it is 3 then, it becomes 0, and the receiver searches again" */
@@ -227,7 +227,7 @@ public final class ReceiverBoundsTest {
             stream.append(BROKEN);
             FrameCommutator x = taken(stream.toString());
             stateIs(misses + " misses", x, misses < 3 ? LOCKED : SEARCHING);
-            countsAre(misses + " misses", x, Math.min(3, 1 + misses), 0, 0, 0, misses, 1);
+            Checks.countsAre(misses + " misses", x, Math.min(3, 1 + misses), 0, 0, 0, misses, 1);
         }
     }
 
@@ -236,20 +236,20 @@ public final class ReceiverBoundsTest {
         String three = LOCK + BROKEN + BROKEN + BROKEN;
         FrameCommutator x = taken(three + LOCK + BROKEN + BROKEN);
         stateIs("two misses behind three", x, LOCKED);
-        countsAre("two misses behind three", x, 6, 0, 0, 0, 5, 2);
+        Checks.countsAre("two misses behind three", x, 6, 0, 0, 0, 5, 2);
         FrameCommutator y = taken(three + LOCK + BROKEN + BROKEN + BROKEN);
         stateIs("three misses behind three", y, SEARCHING);
-        countsAre("three misses behind three", y, 6, 0, 0, 0, 6, 2);
+        Checks.countsAre("three misses behind three", y, 6, 0, 0, 0, 6, 2);
         FrameCommutator z = taken(LOCK + BROKEN + BROKEN + Streams.frame(1, 1, 1, 1) + BROKEN + BROKEN);
         stateIs("a pattern between two and two", z, LOCKED);
-        countsAre("a pattern between two and two", z, 6, 0, 0, 0, 4, 1);
+        Checks.countsAre("a pattern between two and two", z, 6, 0, 0, 0, 4, 1);
     }
 
     private static void earlySlipBehindTwoMisses() {
         String two = BROKEN + Streams.broken(1, 3, 3, 3);
         FrameCommutator x = taken(LOCK + without(two, 95) + Streams.frame(0, 1, 1, 1) + two);
         stateIs("an early slip between two and two", x, LOCKED);
-        countsAre("an early slip between two and two", x, 6, 0, 1, 0, 4, 1);
+        Checks.countsAre("an early slip between two and two", x, 6, 0, 1, 0, 4, 1);
         FrameCommutator y = taken(LOCK + without(two, 95) + Streams.frame(0, 1, 1, 1) + two + BROKEN);
         stateIs("and a third one", y, SEARCHING);
     }
@@ -258,7 +258,7 @@ public final class ReceiverBoundsTest {
         String two = BROKEN + Streams.broken(1, 3, 3, 3);
         FrameCommutator x = taken(LOCK + two + "0" + Streams.frame(0, 1, 1, 1) + two);
         stateIs("a late slip between two and two", x, LOCKED);
-        countsAre("a late slip between two and two", x, 6, 0, 0, 1, 4, 1);
+        Checks.countsAre("a late slip between two and two", x, 6, 0, 0, 1, 4, 1);
         FrameCommutator y = taken(LOCK + two + "0" + Streams.frame(0, 1, 1, 1) + two + BROKEN);
         stateIs("and a third one", y, SEARCHING);
     }
@@ -277,9 +277,9 @@ public final class ReceiverBoundsTest {
     /** "the one more bit is the first bit of word 2" */
     private static void bitBehindAMissIsTaken() {
         FrameCommutator x = taken(LOCK + Streams.broken(129, 7, 8, 9));
-        countsAre("word 2 is 129", x, 2, 1, 0, 0, 1, 1);
+        Checks.countsAre("word 2 is 129", x, 2, 1, 0, 0, 1, 1);
         FrameCommutator y = taken(LOCK + Streams.broken(1, 7, 8, 9));
-        countsAre("word 2 is 1", y, 2, 0, 0, 0, 1, 1);
+        Checks.countsAre("word 2 is 1", y, 2, 0, 0, 0, 1, 1);
         Checks.same("17: the last column", y.sample(2), 9);
     }
 
@@ -288,14 +288,14 @@ public final class ReceiverBoundsTest {
         FrameCommutator x = Streams.loaded(LOCK + "0" + Streams.frame(1, 7, 8, 9));
         x.receive(112);
         stateIs("16 bits that are no pattern", x, LOCKED);
-        countsAre("16 bits that are no pattern", x, 1, 0, 0, 0, 0, 1);
+        Checks.countsAre("16 bits that are no pattern", x, 1, 0, 0, 0, 0, 1);
         x.receive(1);
-        countsAre("one more", x, 1, 0, 0, 1, 0, 1);
+        Checks.countsAre("one more", x, 1, 0, 0, 1, 0, 1);
         FrameCommutator y = Streams.loaded(LOCK + BROKEN);
         y.receive(112);
-        countsAre("not yet a miss", y, 1, 0, 0, 0, 0, 1);
+        Checks.countsAre("not yet a miss", y, 1, 0, 0, 0, 0, 1);
         y.receive(1);
-        countsAre("a miss", y, 1, 0, 0, 0, 1, 1);
+        Checks.countsAre("a miss", y, 1, 0, 0, 0, 1, 1);
     }
 
     /** "bad if its word 2 is not less than M" */
@@ -322,7 +322,7 @@ public final class ReceiverBoundsTest {
         FrameCommutator x = Streams.loaded(LOCK + Streams.frame(2, 200, 200, 200));
         x.setLimits(0, 0, 0, 100);
         Checks.same("14: both", x.receive(144), 2);
-        countsAre("the second is bad", x, 2, 1, 0, 0, 0, 1);
+        Checks.countsAre("the second is bad", x, 2, 1, 0, 0, 0, 1);
         Checks.same("17: not of a bad one", x.sample(0), 4);
         Checks.same("18: not of a bad one", x.samples(0), 1);
         Checks.same("22: not of a bad one", x.hasAlarm(0), false);
@@ -374,51 +374,73 @@ public final class ReceiverBoundsTest {
         String stream = LOCK + without(Streams.frame(0, 7, 8, 9), 40) + Streams.frame(2, 1, 1, 1) + "0"
                 + Streams.frame(1, 1, 1, 1) + BROKEN;
         FrameCommutator x = taken(stream);
-        countsAre("before", x, 5, 1, 1, 1, 1, 1);
+        Checks.countsAre("before", x, 5, 1, 1, 1, 1, 1);
         x.setFrame(16, 8);
-        countsAre("behind setFrame", x, 5, 1, 1, 1, 1, 1);
+        Checks.countsAre("behind setFrame", x, 5, 1, 1, 1, 1, 1);
         x.addParameter(1);
-        countsAre("behind addParameter", x, 5, 1, 1, 1, 1, 1);
+        Checks.countsAre("behind addParameter", x, 5, 1, 1, 1, 1, 1);
         x.plan();
         x.send(3);
         x.receive(384);
-        countsAre("more of them", x, 7, 1, 1, 1, 1, 2);
+        Checks.countsAre("more of them", x, 7, 1, 1, 1, 1, 2);
         Checks.same("18: four and two", x.samples(0), 6);
     }
 
-    /** "and with 0 misses in a row" */
-    private static void newLayoutLeavesNoMisses() {
-        for (int added = 0; added < 2; added++) {
-            FrameCommutator x = Streams.loadedWithoutParameters(LOCK + BROKEN + BROKEN);
-            x.receive(192);
-            if (added == 0) {
-                x.setFrame(6, 2);
-            } else {
-                x.addParameter(1);
-            }
-            x.plan();
-            x.send(4);
-            x.disturb(0, 96);
-            x.disturb(0, 144);
-            x.receive(192);
-            stateIs("two misses before and two behind", x, LOCKED);
-            Checks.same("16: four misses", x.received(4), 4);
+    /** Both calls that begin the link anew, and a plan behind them. */
+    private static void renew(FrameCommutator x, boolean byParameter) {
+        if (byParameter) {
+            x.addParameter(-2);
+        } else {
+            x.setFrame(6, 2);
         }
+        x.plan();
+    }
+
+    /** "and with 0 misses in a row" */
+    private static void newLayoutLeavesNoMisses(boolean byParameter) {
+        FrameCommutator x = Streams.loadedWithoutParameters(LOCK + BROKEN + BROKEN);
+        x.receive(192);
+        renew(x, byParameter);
+        x.send(4);
+        x.disturb(0, 96);
+        x.disturb(0, 144);
+        x.receive(192);
+        stateIs("two misses before and two behind", x, LOCKED);
+        Checks.same("16: four misses", x.received(4), 4);
     }
 
     /** "the receiver searches without any bits taken" */
-    private static void newLayoutLeavesNoBits() {
+    private static void newLayoutLeavesNoBits(boolean byParameter) {
         for (int taken = 1; taken < 16; taken++) {
             FrameCommutator x = Streams.loadedWithoutParameters(SYNC.substring(0, taken));
             x.receive(taken);
-            x.addParameter(1);
-            x.plan();
+            renew(x, byParameter);
             x.send(1);
             for (int i = 0; i < taken; i++) {
                 x.disturb(1, 0);
             }
             x.receive(16 - taken);
             stateIs(taken + " bits before, and the others behind", x, SEARCHING);
+        }
+    }
+
+    /** The same from wherever the receiver is: behind it all is as with a new one. */
+    private static void newLayoutAnywhere(boolean byParameter) {
+        String stream = LOCK + BROKEN + "0" + Streams.frame(0, 7, 8, 9);
+        for (int taken = 1; taken <= stream.length(); taken++) {
+            FrameCommutator x = Streams.loadedWithoutParameters(stream);
+            x.receive(taken);
+            int checks = x.received(5);
+            renew(x, byParameter);
+            stateIs("a new layout", x, SEARCHING);
+            x.send(2);
+            x.receive(15);
+            stateIs("15 bits", x, SEARCHING);
+            x.receive(1);
+            stateIs("16 bits", x, CHECKING);
+            Checks.same("16: one check more", x.received(5), checks + 1);
+            Checks.same("14: one is ignored", x.receive(32 + 16 + 31), 0);
+            Checks.same("14: one is delivered", x.receive(1), 1);
         }
     }
 }

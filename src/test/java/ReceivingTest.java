@@ -30,12 +30,6 @@ public final class ReceivingTest {
         Checks.finish("ReceivingTest");
     }
 
-    private static void countsAre(String what, FrameCommutator x, int... due) {
-        for (int i = 0; i < due.length; i++) {
-            Checks.same("16: " + what + ", received(" + i + ")", x.received(i), due[i]);
-        }
-    }
-
     private static void samplesAre(String what, FrameCommutator x, int... due) {
         for (int i = 0; i < due.length; i++) {
             Checks.same("17: " + what + ", sample(" + i + ")", x.sample(i), due[i]);
@@ -51,9 +45,9 @@ public final class ReceivingTest {
     private static void searchCheckLock() {
         FrameCommutator x = Streams.loaded(Streams.lock() + Streams.frame(0, 7, 8, 9));
         take("15 bits of the pattern", x, 15, 0, 0);
-        countsAre("searching", x, 0, 0, 0, 0, 0, 0);
+        Checks.countsAre("searching", x, 0, 0, 0, 0, 0, 0);
         take("the pattern", x, 1, 0, 1);
-        countsAre("checking", x, 0, 0, 0, 0, 0, 1);
+        Checks.countsAre("checking", x, 0, 0, 0, 0, 0, 1);
         take("a minor frame that is ignored", x, 32, 0, 1);
         samplesAre("ignored", x, NONE, NONE, NONE);
         take("15 bits of the next pattern", x, 15, 0, 1);
@@ -66,7 +60,7 @@ public final class ReceivingTest {
         take("another one", x, 48, 1, 2);
         samplesAre("delivered again", x, 7, 8, 9);
         Checks.same("18: two", x.samples(2), 2);
-        countsAre("locked", x, 2, 0, 0, 0, 0, 1);
+        Checks.countsAre("locked", x, 2, 0, 0, 0, 0, 1);
     }
 
     private static void searchThroughNoise() {
@@ -99,21 +93,21 @@ public final class ReceivingTest {
         take("no pattern", x, 1, 0, 0);
         take("7 bits more", x, 7, 0, 0);
         take("a pattern that began in the 16 bits", x, 1, 0, 1);
-        countsAre("checking again", x, 0, 0, 0, 0, 0, 2);
+        Checks.countsAre("checking again", x, 0, 0, 0, 0, 0, 2);
         take("the rest", x, 32 + 48, 1, 2);
         samplesAre("after a check that failed", x, 7, 8, 9);
-        countsAre("after a check that failed", x, 1, 0, 0, 0, 0, 2);
+        Checks.countsAre("after a check that failed", x, 1, 0, 0, 0, 0, 2);
     }
 
     private static void checkThatFailsByABit() {
         FrameCommutator late = Streams.loaded(Streams.frame(0, 1, 2, 3) + "0" + SYNC);
         take("a bit too late", late, 64, 0, 0);
         take("is no slip while checking", late, 1, 0, 1);
-        countsAre("late while checking", late, 0, 0, 0, 0, 0, 2);
+        Checks.countsAre("late while checking", late, 0, 0, 0, 0, 0, 2);
         String early = Streams.frame(0, 1, 2, 3);
         FrameCommutator x = Streams.loaded(early.substring(0, 47) + SYNC + "0");
         take("a bit too early", x, 64, 0, 0);
-        countsAre("early while checking", x, 0, 0, 0, 0, 0, 1);
+        Checks.countsAre("early while checking", x, 0, 0, 0, 0, 0, 1);
     }
 
     private static String shortened(String frame) {
@@ -126,9 +120,9 @@ public final class ReceivingTest {
         take("a minor frame less a bit", x, 144, 2, 2);
         samplesAre("with the pattern's first bit", x, 7, 8, 9);
         take("15 bits", x, 15, 0, 2);
-        countsAre("before the slip", x, 2, 0, 0, 0, 0, 1);
+        Checks.countsAre("before the slip", x, 2, 0, 0, 0, 0, 1);
         take("16 bits", x, 1, 0, 2);
-        countsAre("early slip", x, 2, 0, 1, 0, 0, 1);
+        Checks.countsAre("early slip", x, 2, 0, 1, 0, 0, 1);
         take("all but a bit", x, 30, 0, 2);
         take("the minor frame behind it", x, 1, 1, 2);
         samplesAre("behind an early slip", x, 10, 11, 12);
@@ -139,7 +133,7 @@ public final class ReceivingTest {
         FrameCommutator x = Streams.loaded(Streams.lock() + shortened(Streams.frame(0, 7, 8, 9))
                 + Streams.frame(128, 10, 11, 12) + Streams.frame(0, 13, 14, 15));
         take("word 2 is 128", x, 191, 3, 2);
-        countsAre("a bad one behind an early slip", x, 3, 1, 1, 0, 0, 1);
+        Checks.countsAre("a bad one behind an early slip", x, 3, 1, 1, 0, 0, 1);
         take("the next one", x, 48, 1, 2);
         samplesAre("the next one", x, 13, 14, 15);
     }
@@ -148,9 +142,9 @@ public final class ReceivingTest {
         FrameCommutator x = Streams.loaded(Streams.lock() + Streams.frame(0, 7, 8, 9) + "0"
                 + Streams.frame(1, 10, 11, 12));
         take("a minor frame and a bit", x, 160, 2, 2);
-        countsAre("before the slip", x, 2, 0, 0, 0, 0, 1);
+        Checks.countsAre("before the slip", x, 2, 0, 0, 0, 0, 1);
         take("one more bit", x, 1, 0, 2);
-        countsAre("late slip", x, 2, 0, 0, 1, 0, 1);
+        Checks.countsAre("late slip", x, 2, 0, 0, 1, 0, 1);
         take("all but a bit", x, 31, 0, 2);
         take("the minor frame behind it", x, 1, 1, 2);
         samplesAre("behind a late slip", x, 10, 11, 12);
@@ -160,20 +154,20 @@ public final class ReceivingTest {
         FrameCommutator x = Streams.loaded(Streams.lock() + Streams.broken(0, 7, 8, 9)
                 + Streams.frame(1, 10, 11, 12));
         take("a wrong pattern", x, 112, 1, 2);
-        countsAre("before the miss", x, 1, 0, 0, 0, 0, 1);
+        Checks.countsAre("before the miss", x, 1, 0, 0, 0, 0, 1);
         take("one more bit", x, 1, 0, 2);
-        countsAre("miss", x, 1, 0, 0, 0, 1, 1);
+        Checks.countsAre("miss", x, 1, 0, 0, 0, 1, 1);
         take("all but a bit", x, 30, 0, 2);
         take("the minor frame is delivered", x, 1, 1, 2);
         samplesAre("behind a miss", x, 7, 8, 9);
         take("the next one", x, 48, 1, 2);
-        countsAre("still locked", x, 3, 0, 0, 0, 1, 1);
+        Checks.countsAre("still locked", x, 3, 0, 0, 0, 1, 1);
     }
 
     private static void missKeepsTheBit() {
         FrameCommutator x = Streams.loaded(Streams.lock() + Streams.broken(128, 7, 8, 9));
         take("word 2 is 128", x, 144, 2, 2);
-        countsAre("a bad one behind a miss", x, 2, 1, 0, 0, 1, 1);
+        Checks.countsAre("a bad one behind a miss", x, 2, 1, 0, 0, 1, 1);
         samplesAre("a bad one is only counted", x, 4, 5, 6);
     }
 
@@ -184,13 +178,13 @@ public final class ReceivingTest {
                 + Streams.broken(1, 22, 23, 24) + Streams.broken(0, 25, 26, 27));
         take("two misses", x, 208, 3, 2);
         take("the third", x, 1, 0, 0);
-        countsAre("three misses", x, 3, 0, 0, 0, 3, 1);
+        Checks.countsAre("three misses", x, 3, 0, 0, 0, 3, 1);
         take("the rest of the minor frame is lost", x, 31, 0, 0);
         take("checking again", x, 16, 0, 1);
         take("locked again", x, 80, 1, 2);
         samplesAre("locked again", x, 19, 20, 21);
         take("two misses more", x, 96, 2, 2);
-        countsAre("the row begins anew", x, 6, 0, 0, 0, 5, 2);
+        Checks.countsAre("the row begins anew", x, 6, 0, 0, 0, 5, 2);
     }
 
     private static void searchAfterMissesBeginsWithoutBits() {
@@ -211,9 +205,9 @@ public final class ReceivingTest {
                 + Streams.broken(1, 2, 2, 2) + Streams.frame(0, 3, 3, 3) + Streams.broken(1, 4, 4, 4)
                 + Streams.broken(0, 5, 5, 5) + Streams.broken(1, 6, 6, 6));
         take("two misses, a pattern, two misses", x, 7 * 48, 6, 2);
-        countsAre("four misses", x, 6, 0, 0, 0, 4, 1);
+        Checks.countsAre("four misses", x, 6, 0, 0, 0, 4, 1);
         take("one more", x, 48, 0, 0);
-        countsAre("the third in a row", x, 6, 0, 0, 0, 5, 1);
+        Checks.countsAre("the third in a row", x, 6, 0, 0, 0, 5, 1);
     }
 
     private static void slipsEndTheRowOfMisses() {
@@ -221,24 +215,24 @@ public final class ReceivingTest {
         FrameCommutator early = Streams.loaded(Streams.lock() + shortened(twice)
                 + Streams.frame(0, 9, 9, 9) + twice);
         take("early slip between misses", early, 7 * 48 - 1, 6, 2);
-        countsAre("early slip between misses", early, 6, 0, 1, 0, 4, 1);
+        Checks.countsAre("early slip between misses", early, 6, 0, 1, 0, 4, 1);
         FrameCommutator late = Streams.loaded(Streams.lock() + twice + "0"
                 + Streams.frame(0, 9, 9, 9) + twice);
         take("late slip between misses", late, 7 * 48 + 1, 6, 2);
-        countsAre("late slip between misses", late, 6, 0, 0, 1, 4, 1);
+        Checks.countsAre("late slip between misses", late, 6, 0, 0, 1, 4, 1);
     }
 
     private static void badMinorFrames() {
         FrameCommutator x = Streams.loaded(Streams.lock() + Streams.frame(2, 7, 8, 9)
                 + Streams.frame(255, 10, 11, 12) + Streams.frame(1, 13, 14, 15));
         take("word 2 is M", x, 144, 2, 2);
-        countsAre("word 2 is M", x, 2, 1, 0, 0, 0, 1);
+        Checks.countsAre("word 2 is M", x, 2, 1, 0, 0, 0, 1);
         samplesAre("word 2 is M", x, 4, 5, 6);
         Checks.same("18: word 2 is M", x.samples(1), 1);
         take("word 2 is 255", x, 48, 1, 2);
-        countsAre("word 2 is 255", x, 3, 2, 0, 0, 0, 1);
+        Checks.countsAre("word 2 is 255", x, 3, 2, 0, 0, 0, 1);
         take("word 2 is M - 1", x, 48, 1, 2);
-        countsAre("word 2 is M - 1", x, 4, 2, 0, 0, 0, 1);
+        Checks.countsAre("word 2 is M - 1", x, 4, 2, 0, 0, 0, 1);
         samplesAre("word 2 is M - 1", x, 13, 14, 15);
         Checks.same("18: two", x.samples(1), 2);
     }

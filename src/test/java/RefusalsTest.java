@@ -14,8 +14,8 @@ public final class RefusalsTest {
             x -> x.setFrame(5, 2), x -> x.setFrame(6, 3), x -> x.addParameter(0), x -> x.slot(99, 0, 0),
             x -> x.samplesPerMajor(-1), x -> x.ownerOf(9, 0), x -> x.setValue(99, 0), x -> x.setValue(0, 256),
             x -> x.send(0), x -> x.send(17), x -> x.bit(2048), x -> x.disturb(4, 0), x -> x.disturb(1, 2048),
-            x -> x.receive(0), x -> x.receive(2049), x -> x.received(6), x -> x.sample(99), x -> x.samples(-1),
-            x -> x.setMode(3), x -> x.setLimits(0, 3, 0, 0), x -> x.setLimits(0, 0, 2, 1),
+            x -> x.receive(0), x -> x.receive(2049), x -> x.received(6), x -> x.sample(99),
+            x -> x.samples(-1), x -> x.setMode(3), x -> x.setLimits(0, 3, 0, 0), x -> x.setLimits(0, 0, 2, 1),
             x -> x.setPersistence(0, 6), x -> x.hasAlarm(-1), x -> x.alarms(99));
 
     public static void main(String[] args) {
@@ -154,7 +154,8 @@ public final class RefusalsTest {
 
     private static void noTraceWithTwelveParameters() {
         noTrace("12 parameters", () -> Streams.plannedAs(15, 1, Streams.times(12, 1)),
-                List.of(x -> x.addParameter(1), x -> x.addParameter(-8), x -> x.setValue(12, 1)), x -> x.send(16));
+                List.of(x -> x.addParameter(1), x -> x.addParameter(-8), x -> x.setValue(12, 1)),
+                x -> x.send(16));
     }
 
     private static void noTraceWithoutAPlan() {

@@ -255,8 +255,8 @@ public final class UndoBoundsTest {
 
     /** "the number of parameters and, for each of them", with no plan, 12 times. */
     private static void digestOfTwelveParameters() {
-        FrameCommutator x = Streams.withRates(16, 8, 1, 2, 3, 4, -2, -4, -8, 1, 2, 3, 4, -8);
         int[] rates = {1, 2, 3, 4, -2, -4, -8, 1, 2, 3, 4, -8};
+        FrameCommutator x = Streams.withRates(16, 8, rates);
         long due = mixed(2837, 16, 8, 12);
         for (int i = 0; i < 12; i++) {
             x.setValue(i, 255 - i);
@@ -264,7 +264,8 @@ public final class UndoBoundsTest {
             x.setLimits(i, 1, i + 2, i + 3);
             x.setLimits(i, 2, i + 4, 255);
             x.setPersistence(i, 1 + i % 5);
-            due = mixed(due, rates[i], 255 - i, -1, 0, i, i + 1, i + 2, i + 3, i + 4, 255, 1 + i % 5, 0, 0, 0);
+            due = mixed(due, rates[i], 255 - i, -1, 0);
+            due = mixed(due, i, i + 1, i + 2, i + 3, i + 4, 255, 1 + i % 5, 0, 0, 0);
         }
         due = mixed(due, 0, 0, 0, 0, 0, 0, 0, 0, 0, 0, 0, 0, 4);
         Checks.same("25: twelve parameters", x.digest(), due);
